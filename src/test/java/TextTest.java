@@ -1,0 +1,286 @@
+import java.util.function.ToIntFunction;
+
+/** Promises 19 to 24: the text, run with its report, and the history. */
+final class TextTest {
+    public static void main(String[] args) {
+        Check c = new Check("TextTest");
+        promise19(c);
+        promise20(c);
+        promise21(c);
+        promise22(c);
+        promise23(c);
+        promise24(c);
+        promise24Actions(c);
+        promise24NoActions(c);
+        c.end();
+    }
+
+    private static void promise19(Check c) {
+        RevealDeck x = new RevealDeck();
+        c.refused(x, "19: append(31)", RevealDeck.BAD_VALUE, () -> x.append(31));
+        c.refused(x, "19: append(127)", RevealDeck.BAD_VALUE, () -> x.append(127));
+        c.refused(x, "19: append(65536 + 102)", RevealDeck.BAD_VALUE, () -> x.append(65536 + 102));
+        c.same("19: append(32)", 1, x.append(32));
+        c.same("19: append(126)", 2, x.append(126));
+        for (int i = 3; i <= 60; i++) {
+            c.same("19: append(102)", i, x.append(102));
+        }
+        c.refused(x, "19: full", RevealDeck.TOO_MANY, () -> x.append(102));
+        c.refused(x, "19: full, and a bad value", RevealDeck.BAD_VALUE, () -> x.append(127));
+        c.same("19: the length", 60, x.clearText());
+    }
+
+    private static void promise20(Check c) {
+        RevealDeck x = new RevealDeck();
+        Check.type(x, "f;b");
+        c.same("20: clearText()", 3, x.clearText());
+        c.same("20: it is empty", 0, x.clearText());
+        Check.type(x, "b");
+        c.same("20: nothing of the old text", RevealDeck.NONE, x.fault());
+        c.same("20: nothing of the old text", 1, x.clearText());
+    }
+
+    private static void promise21(Check c) {
+        String[] good = {"f", "b", "k0", "k9", "t1", "t9", "t10", "t99", "f;f", "k5;t30;b;f", "t5;k5"};
+        for (String text : good) {
+            fault(c, text, RevealDeck.NONE);
+        }
+        String[] unfinished = {"", "k", "t", "f;", "t5;", "t55;", "k5;", "f;k", "b;t"};
+        for (String text : unfinished) {
+            fault(c, text, text.length());
+        }
+        String[] badAtTheEnd = {" ", "x", ";", "1", "F", "ff", "f ", "fb", "k;", "kf", "k55", "t0", "t;", "t100", "t990", "k5f", "t5f", "t5k", "t5 ", "f;;", "f; ", "t/", "t:", "k/", "k:", "t5/", "t5:", "a", "g"};
+        for (String text : badAtTheEnd) {
+            fault(c, text, text.length() - 1);
+        }
+        fault(c, "f;x;f", 2);
+        fault(c, "t00", 1);
+        String long60 = "f;".repeat(30);
+        fault(c, long60, 60);
+        fault(c, "t1;" + "f;".repeat(28) + "k", 60);
+        fault(c, "t1;" + "f;".repeat(28) + "x", 59);
+        fault(c, "t1;" + "f;".repeat(28) + "f", RevealDeck.NONE);
+    }
+
+    private static void fault(Check c, String text, int due) {
+        RevealDeck x = Check.deck(1);
+        Check.type(x, text);
+        c.same("21: fault() of '" + text + "'", due, x.fault());
+        c.same("21: run() of '" + text + "'", due == RevealDeck.NONE ? 0 : RevealDeck.BAD_TEXT, x.run());
+    }
+
+    private static void promise22(Check c) {
+        RevealDeck x = Check.deck(3);
+        c.refused(x, "22: the empty text", RevealDeck.BAD_TEXT, x::run);
+        Check.type(x, "f;f;");
+        c.refused(x, "22: not complete", RevealDeck.BAD_TEXT, x::run);
+        x.append('b');
+        c.same("22: no presentation", 0, x.run());
+        x.start();
+        c.same("22: f;f;b", 3, x.run());
+        c.same("22: the position", 1, x.now(0));
+        c.same("22: the trail", 1, x.now(4));
+        x.link(1, 7, 2);
+        x.link(1, 1, 0);
+        x.setPause(2, 5);
+        Check.type(x, "k7;t12;k7;f");
+        c.same("22: up to the first that is not possible", 2, x.run());
+        c.same("22: the position", 2, x.now(0));
+        c.same("22: a number of two digits", 12, x.now(2));
+        c.same("22: the text stays", 11, x.clearText());
+        Check.type(x, "t3;t9;t1");
+        x.setEnd(14);
+        c.same("22: tick up to the end counts as a move", 1, x.run());
+        c.same("22: the clock", 14, x.now(2));
+        Check.type(x, "b");
+        c.same("22: over", 0, x.run());
+        x.setEnd(0);
+        Check.type(x, "b;k1");
+        c.same("22: keys", 2, x.run());
+        c.same("22: the position", 0, x.now(0));
+    }
+
+    private static void promise23(Check c) {
+        RevealDeck x = Check.deck(2);
+        for (int what = 0; what <= 3; what++) {
+            c.same("23: no run yet: why(" + what + ")", RevealDeck.NONE, x.why(what));
+        }
+        c.same("23: why(-1)", RevealDeck.BAD_VALUE, x.why(-1));
+        c.same("23: why(4)", RevealDeck.BAD_VALUE, x.why(4));
+        Check.type(x, "t12;f;k5;f");
+        x.run();
+        why(c, "without a presentation", x, 0, 0, RevealDeck.NONE, RevealDeck.NONE);
+        x.addItem(1, 1, -1, 1);
+        x.start();
+        c.same("23: run()", 2, x.run());
+        why(c, "at k5", x, 2, 6, 1, 0);
+        x.forward();
+        x.back();
+        x.back();
+        x.clearText();
+        why(c, "as it was then", x, 2, 6, 1, 0);
+        c.same("23: a bad text", RevealDeck.BAD_TEXT, x.run());
+        why(c, "a bad text leaves it", x, 2, 6, 1, 0);
+        x.undo();
+        why(c, "undo leaves it", x, 2, 6, 1, 0);
+        x.start();
+        Check.type(x, "f;f;t99;f");
+        x.run();
+        why(c, "with a step", x, 3, 8, 1, 1);
+        x.back();
+        Check.type(x, "f");
+        c.same("23: run()", 1, x.run());
+        why(c, "all were made", x, RevealDeck.NONE, RevealDeck.NONE, RevealDeck.NONE, RevealDeck.NONE);
+        c.same("23: why(4)", RevealDeck.BAD_VALUE, x.why(4));
+        x.stop();
+        x.run();
+        why(c, "stopped", x, 0, 0, RevealDeck.NONE, RevealDeck.NONE);
+    }
+
+    private static void why(Check c, String when, RevealDeck x, int move, int character, int slide, int step) {
+        c.same("23: " + when + ": why(0)", move, x.why(0));
+        c.same("23: " + when + ": why(1)", character, x.why(1));
+        c.same("23: " + when + ": why(2)", slide, x.why(2));
+        c.same("23: " + when + ": why(3)", step, x.why(3));
+    }
+
+    private static void promise24(Check c) {
+        RevealDeck x = Check.deck(2);
+        x.setEnd(5);
+        x.setEnd(6);
+        x.setEnd(7);
+        x.setEnd(8);
+        x.setEnd(9);
+        c.same("24: the latest", 3, x.undo());
+        c.same("24: end()", 8, x.end());
+        c.same("24: undo()", 2, x.undo());
+        c.same("24: undo()", 1, x.undo());
+        c.same("24: undo()", 0, x.undo());
+        c.same("24: the fifth was dropped", 5, x.end());
+        c.same("24: undo()", RevealDeck.NONE, x.undo());
+        c.same("24: it changes nothing", 5, x.end());
+        x.setEnd(6);
+        c.same("24: recorded anew", 0, x.undo());
+        c.same("24: end()", 5, x.end());
+        Check.type(x, "f");
+        x.addSlide();
+        x.undo();
+        c.same("24: the text stays", 1, x.clearText());
+    }
+
+    /** Each action records the state before it, once, and undo brings all of it back. */
+    private static void promise24Actions(Check c) {
+        undone(c, "addSlide()", x -> x.addSlide());
+        undone(c, "removeSlide(2)", x -> x.removeSlide(2));
+        undone(c, "moveSlide(0, 2)", x -> x.moveSlide(0, 2));
+        undone(c, "moveSlide(0, 0)", x -> x.moveSlide(0, 0));
+        undone(c, "hide(0, true)", x -> x.hide(0, true));
+        undone(c, "hide(0, false)", x -> x.hide(0, false));
+        undone(c, "setPause(0, 9)", x -> x.setPause(0, 9));
+        undone(c, "setPause(0, 3)", x -> x.setPause(0, 3));
+        undone(c, "addItem(0, 1, 2, 3)", x -> x.addItem(0, 1, 2, 3));
+        undone(c, "removeItem(1, 0)", x -> x.removeItem(1, 0));
+        undone(c, "link(0, 4, 0)", x -> x.link(0, 4, 0));
+        undone(c, "link(0, 1, 2)", x -> x.link(0, 1, 2));
+        undone(c, "unlink(0, 1)", x -> x.unlink(0, 1));
+        undone(c, "note(0, 5)", x -> x.note(0, 5));
+        undone(c, "note(4, 44)", x -> x.note(4, 44));
+        undone(c, "note(4, -1)", x -> x.note(4, -1));
+        undone(c, "setEnd(9)", x -> x.setEnd(9));
+        undone(c, "setEnd(500)", x -> x.setEnd(500));
+        undone(c, "start()", x -> x.start());
+        undone(c, "stop()", x -> x.stop());
+        undone(c, "forward()", x -> x.forward());
+        undone(c, "back()", x -> x.back());
+        undone(c, "press(8)", x -> x.press(8));
+        undone(c, "tick(7)", x -> x.tick(7));
+        undone(c, "run()", x -> x.run());
+        undone(c, "run() of one that is not possible", x -> {
+            Check.type(x, "k0");
+            return x.run();
+        });
+    }
+
+    private static void undone(Check c, String call, ToIntFunction<RevealDeck> made) {
+        RevealDeck x = busy();
+        String before = Check.stateOf(x);
+        int answer = made.applyAsInt(x);
+        c.same("24: " + call + " is no error (1 for yes)", 1, answer >= 0 ? 1 : 0);
+        c.same("24: undo() of " + call, 0, x.undo());
+        c.same("24: all is as before " + call + " (1 for yes)", 1, before.equals(Check.stateOf(x)) ? 1 : 0);
+        c.same("24: the note as before " + call, 2, x.note(4, 4));
+        c.same("24: the note as before " + call, 1, x.note(4, -1));
+        c.same("24: the note as before " + call, RevealDeck.NO_SUCH, x.note(5, -1));
+    }
+
+    /** A deck in the midst of a presentation, with an empty history. */
+    private static RevealDeck busy() {
+        RevealDeck x = Check.deck(3);
+        x.setPause(0, 3);
+        x.addItem(0, 2, -1, 10);
+        x.addItem(1, 0, 1, 20);
+        x.link(0, 1, 2);
+        x.link(1, 8, 2);
+        x.link(2, 1, 1);
+        x.link(1, 9, 0);
+        x.note(4, 4);
+        x.note(99, 9);
+        x.setEnd(500);
+        x.start();
+        x.tick(4);
+        x.press(1);
+        x.press(1);
+        x.forward();
+        Check.type(x, "t6;b;f;k8");
+        // nothing but undo shortens the history, so the object is brought to this state by undo alone
+        x.hide(2, true);
+        x.hide(2, false);
+        x.hide(2, true);
+        x.hide(2, true);
+        for (int i = 0; i < 4; i++) {
+            x.undo();
+        }
+        return x;
+    }
+
+    /** An error and what is no action record nothing. */
+    private static void promise24NoActions(Check c) {
+        RevealDeck x = Check.deck(10);
+        Check.historySize(x);
+        x.removeSlide(99);
+        x.moveSlide(0, 99);
+        x.hide(-5, true);
+        x.setPause(0, 99);
+        x.addItem(0, 0, -1, 100);
+        x.removeItem(0, 0);
+        x.link(0, 0, -1);
+        x.unlink(0, 0);
+        x.note(5, -1);
+        x.setEnd(-1);
+        x.stop();
+        x.forward();
+        x.back();
+        x.press(0);
+        x.tick(1);
+        x.run();
+        x.append('f');
+        x.clearText();
+        x.fault();
+        x.why(0);
+        Check.stateOf(x);
+        c.same("24: no error and no other call is recorded", RevealDeck.NONE, x.undo());
+        RevealDeck y = new RevealDeck();
+        y.start();
+        c.same("24: start() that is not possible", RevealDeck.NONE, y.undo());
+        y.addSlide();
+        y.start();
+        y.removeSlide(0);
+        y.forward();
+        y.back();
+        c.same("24: only addSlide() and start() were recorded", 1, y.undo());
+        RevealDeck z = Check.deck(10);
+        z.addSlide();
+        z.start();
+        c.same("24: four are kept of eleven", 4, Check.historySize(z));
+    }
+}
