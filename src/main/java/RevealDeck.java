@@ -619,7 +619,7 @@ public final class RevealDeck {
 
         /** The slide with this number, null if there is none. */
         Slide find(int number) {
-            if (!isWithin(number, 0, MAX_SLIDES - 1)) {
+            if (number < 0 || number >= MAX_SLIDES) {
                 return null;
             }
             Slide row = rows[number];
@@ -687,7 +687,7 @@ public final class RevealDeck {
 
         /** The number of the slide at this place, NOWHERE if there is none. */
         int numberAt(int place) {
-            return isWithin(place, 0, count - 1) ? order[place] : NOWHERE;
+            return place >= 0 && place < count ? order[place] : NOWHERE;
         }
 
         /** The number of the first slide behind this place that is not hidden, NOWHERE if there is none. */

@@ -88,6 +88,14 @@ final class DeckTest {
         c.same("3: and the next", 2, x.removeSlide(0));
         c.same("3: and the next", 1, x.removeSlide(1));
         c.same("3: and the last", 0, x.removeSlide(3));
+        RevealDeck y = Check.deck(10);
+        y.link(0, 0, 9);
+        y.link(0, 9, 9);
+        y.link(0, 5, 8);
+        c.same("3: removeSlide(9)", 9, y.removeSlide(9));
+        c.same("3: a link by the key 0", RevealDeck.NONE, y.target(0, 0));
+        c.same("3: a link by the key 9", RevealDeck.NONE, y.target(0, 9));
+        c.same("3: the other link", 1, y.slide(0, 5));
     }
 
     private static void promise4(Check c) {
@@ -204,6 +212,11 @@ final class DeckTest {
         x.forward();
         c.same("8: an item of another slide", 0, x.removeItem(1, 0));
         c.same("8: the step stays", 1, x.now(1));
+        x.addItem(1, 2, -1, 1);
+        x.addItem(1, 7, 7, 1);
+        c.same("8: the last of two", 1, x.removeItem(1, 1));
+        c.same("8: the final step without it", 2, x.slide(1, 4));
+        c.same("8: the picture without it", 1, x.picture(1, 7));
     }
 
     private static void promise9(Check c) {
@@ -262,6 +275,8 @@ final class DeckTest {
         c.same("11: noteNow()", RevealDeck.NONE, x.noteNow());
         c.same("11: room again", 8, x.note(7, 7));
         c.same("11: note(9999, -1)", 7, x.note(9999, -1));
+        x.note(50, 5);
+        c.same("11: the newest goes", 7, x.note(50, -1));
         c.refused(x, "11: note(9999, -1) again", RevealDeck.NO_SUCH, () -> x.note(9999, -1));
         for (int i = 1; i <= 7; i++) {
             x.tick(1);

@@ -98,6 +98,16 @@ final class ForecastTest {
         c.same("38: from the final step", 1, x.fewest(1));
         x.press(7);
         c.same("38: from the first step", 2, x.fewest(1));
+        RevealDeck y = Check.deck(10);
+        y.start();
+        c.same("38: the tenth slide", 9, y.fewest(9));
+        y.link(0, 0, 9);
+        c.same("38: the tenth slide by a key", 1, y.fewest(9));
+        y.moveSlide(9, 0);
+        y.press(0);
+        c.same("38: from the tenth slide", 1, y.fewest(0));
+        c.same("38: from the tenth slide", 9, y.fewest(8));
+        c.same("38: the tenth slide itself", 0, y.fewest(9));
     }
 
     private static void promise39(Check c) {

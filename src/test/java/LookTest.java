@@ -221,6 +221,12 @@ final class LookTest {
         c.same("33: step 2", 99, x.labels());
         x.forward();
         c.same("33: nothing is seen", 0, x.labels());
+        x.forward();
+        c.same("33: step 1 of the other slide", 50, x.labels());
+        x.addItem(1, 0, -1, 7);
+        c.same("33: one more", 57, x.labels());
+        x.removeItem(1, 1);
+        c.same("33: without it", 50, x.labels());
     }
 
     private static void promise34(Check c) {

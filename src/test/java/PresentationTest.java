@@ -38,6 +38,11 @@ final class PresentationTest {
         for (int what = 1; what <= 6; what++) {
             c.same("13: from the beginning: now(" + what + ")", 0, x.now(what));
         }
+        x.addItem(1, 3, -1, 1);
+        x.forward();
+        x.forward();
+        c.same("13: again from a step", 1, x.start());
+        position(c, "13: again from a step", x, 1, 0, 0);
         x.hide(0, true);
         x.hide(1, true);
         c.refused(x, "13: all are hidden", RevealDeck.NOT_POSSIBLE, x::start);
@@ -121,6 +126,20 @@ final class PresentationTest {
         c.same("15: the latest", 4, x.trail(0, 0));
         c.same("15: the latest", 0, x.trail(0, 1));
         c.same("15: no more", RevealDeck.NONE, x.trail(40, 0));
+        x.link(4, 6, 0);
+        x.link(0, 6, 4);
+        for (int i = 0; i < 40; i++) {
+            x.press(6);
+        }
+        c.same("15: it grows no more", 40, x.now(4));
+        c.same("15: the oldest is by forward", 4, x.trail(39, 0));
+        c.same("15: the oldest is by forward", 0, x.trail(39, 2));
+        c.same("15: the next oldest is by a key", 0, x.trail(38, 0));
+        c.same("15: the next oldest is by a key", 1, x.trail(38, 2));
+        x.press(6);
+        c.same("15: the oldest is by a key", 0, x.trail(39, 0));
+        c.same("15: the oldest is by a key", 1, x.trail(39, 2));
+        c.same("15: then the other slide", 4, x.trail(38, 0));
     }
 
     private static void promise16(Check c) {
@@ -129,6 +148,7 @@ final class PresentationTest {
         x.addItem(0, 3, -1, 1);
         x.link(0, 5, 1);
         x.link(1, 6, 2);
+        x.link(0, 0, 2);
         x.addItem(1, 1, -1, 1);
         x.start();
         c.refused(x, "16: the trail is empty", RevealDeck.NOT_POSSIBLE, x::back);
@@ -216,12 +236,14 @@ final class PresentationTest {
         x.tick(4);
         c.refused(x, "17: no such link", RevealDeck.NOT_POSSIBLE, () -> x.press(3));
         c.same("17: to the same slide", 0, x.press(0));
+        c.same("17: the clock stays", 4, x.now(2));
         position(c, "17: to the same slide", x, 0, 0, 1);
         c.same("17: the trail", 1, x.now(4));
         c.same("17: not marked there", 0, x.trail(0, 2));
         c.same("17: waited", 0, x.now(3));
         x.hide(1, true);
         c.same("17: to a hidden slide", 1, x.press(9));
+        c.same("17: the clock stays", 4, x.now(2));
         c.same("17: marked there", 1, x.trail(0, 2));
         x.forward();
         position(c, "17: a step keeps the mark", x, 1, 1, 1);
