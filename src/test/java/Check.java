@@ -1,4 +1,4 @@
-import java.util.function.IntSupplier;
+import java.util.function.ToIntFunction;
 
 /** Counts the answers of a test and prints those that are not the ones that are due. */
 final class Check {
@@ -18,15 +18,70 @@ final class Check {
         }
     }
 
-    /** The call answers this error code and changes nothing that can be seen. */
-    void refused(RevealDeck x, String call, int code, IntSupplier made) {
-        String before = stateOf(x);
-        same(call, code, made.getAsInt());
-        same(call + " leaves all as it was (1 for yes)", 1, before.equals(stateOf(x)) ? 1 : 0);
-    }
-
     void sameFloat(String call, float due, float got) {
         same(call + " (bits)", Float.floatToIntBits(due), Float.floatToIntBits(got));
+    }
+
+    void sameText(String call, String due, String got) {
+        answers++;
+        if (!due.equals(got)) {
+            wrong++;
+            String[] dueLines = due.split("\n", -1);
+            String[] gotLines = got.split("\n", -1);
+            int line = 0;
+            while (line < dueLines.length - 1 && line < gotLines.length - 1 && dueLines[line].equals(gotLines[line])) {
+                line++;
+            }
+            System.out.println(name + ": " + call + "\n  there is  " + gotLines[line] + "\n  where due " + dueLines[line]);
+        }
+    }
+
+    /** The call answers this error code and changes nothing. */
+    void refused(Run x, String call, int code, ToIntFunction<RevealDeck> made) {
+        unchanged(x, call, made);
+        same(call, code, x.call(made));
+    }
+
+    /** All that can be seen of the object with this call is as without it, and so is what is behind each undo. */
+    void unchanged(Run x, String call, ToIntFunction<RevealDeck> made) {
+        for (int undos = 0; undos <= 4; undos++) {
+            Run without = x.again();
+            Run with = x.again();
+            with.call(made);
+            for (int i = 0; i < undos; i++) {
+                same(call + ", then undo()", without.undo(), with.undo());
+            }
+            String when = call + ", then " + undos + " times undo()";
+            sameText(when, Looks.stateOf(without::again), Looks.stateOf(with::again));
+            sameText(when, restOf(without.again()), restOf(with.again()));
+        }
+    }
+
+    /** What only other calls tell: the report, the text by its run, the number of states, the notes. */
+    private static String restOf(Run x) {
+        StringBuilder told = new StringBuilder("report");
+        for (int what = 0; what <= 3; what++) {
+            told.append(' ').append(x.why(what));
+        }
+        told.append("\ntext ").append(x.fault()).append(" run ").append(x.run());
+        for (int what = 0; what <= 3; what++) {
+            told.append(' ').append(x.why(what)).append('/').append(x.now(what));
+        }
+        told.append(" length ").append(x.clearText()).append(" undo ").append(x.undo());
+        return told.append('\n').append(notesOf(x)).toString();
+    }
+
+    /** What the notes of the seconds 0 to 10 and 9999 are; starts a presentation for that, and removes them. */
+    static String notesOf(Run x) {
+        StringBuilder told = new StringBuilder("notes ");
+        told.append(x.setEnd(0)).append(' ').append(x.start());
+        for (int second = 0; second <= 10; second++) {
+            told.append(' ').append(x.noteNow()).append('/').append(x.tick(1));
+        }
+        for (int second = 0; second <= 10; second++) {
+            told.append(' ').append(x.note(second, -1));
+        }
+        return told.append(' ').append(x.note(9999, -1)).toString();
     }
 
     /** Ends the program with exit code 1 if an answer was wrong. */
@@ -37,56 +92,11 @@ final class Check {
         }
     }
 
-    /** A new object with so many slides. */
-    static RevealDeck deck(int slides) {
-        RevealDeck x = new RevealDeck();
-        for (int i = 0; i < slides; i++) {
-            x.addSlide();
-        }
-        return x;
-    }
-
     /** Puts this text in the place of the one that there was. */
-    static void type(RevealDeck x, String text) {
+    static void type(Run x, String text) {
         x.clearText();
         for (int i = 0; i < text.length(); i++) {
             x.append(text.charAt(i));
         }
-    }
-
-    /** How many states are in the history; takes them all away. */
-    static int historySize(RevealDeck x) {
-        int size = 0;
-        while (x.undo() != RevealDeck.NONE) {
-            size++;
-        }
-        return size;
-    }
-
-    /** All that the methods that change nothing tell of the state, but not the text, the report and the history. */
-    static String stateOf(RevealDeck x) {
-        StringBuilder told = new StringBuilder();
-        told.append(x.slides()).append('/').append(x.end()).append('/').append(x.labels()).append('/').append(x.noteNow());
-        told.append('/').append(x.meanSteps()).append('/').append(x.movesLeft()).append('/').append(x.secondsLeft());
-        told.append('/').append(x.backTo()).append('\n');
-        for (int what = 0; what <= 6; what++) {
-            told.append(x.now(what)).append(' ');
-        }
-        for (int ago = 0; ago <= 41; ago++) {
-            told.append(ago).append(':').append(x.trail(ago, 0)).append(' ').append(x.trail(ago, 1)).append(' ').append(x.trail(ago, 2)).append(' ');
-        }
-        for (int i = 0; i <= 10; i++) {
-            told.append('\n').append(x.slideAt(i)).append(' ').append(x.fewest(i));
-            for (int what = 0; what <= 5; what++) {
-                told.append(' ').append(x.slide(i, what));
-            }
-            for (int k = 0; k <= 9; k++) {
-                told.append(' ').append(x.target(i, k)).append(',').append(x.picture(i, k));
-            }
-            for (int place = 0; place <= 6; place++) {
-                told.append(' ').append(x.item(i, place, 0)).append(',').append(x.item(i, place, 1)).append(',').append(x.item(i, place, 2));
-            }
-        }
-        return told.toString();
     }
 }

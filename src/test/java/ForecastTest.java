@@ -5,15 +5,18 @@ final class ForecastTest {
         promise37(c);
         promise38(c);
         promise38Ways(c);
+        promise38LongestWay(c);
         promise39(c);
+        promise39None(c);
         promise39Pauses(c);
         promise40(c);
         c.end();
     }
 
     private static void promise37(Check c) {
-        RevealDeck x = Check.deck(4);
+        Run x = Run.deck(4);
         c.same("37: no presentation", RevealDeck.NONE, x.movesLeft());
+        c.same("37: no presentation, no slides", RevealDeck.NONE, new Run().movesLeft());
         x.start();
         c.same("37: three slides behind", 3, x.movesLeft());
         x.addItem(0, 2, -1, 1);
@@ -37,7 +40,7 @@ final class ForecastTest {
     }
 
     private static void promise38(Check c) {
-        RevealDeck x = Check.deck(4);
+        Run x = Run.deck(4);
         c.same("38: no presentation", RevealDeck.NONE, x.fewest(0));
         c.same("38: no such slide", RevealDeck.NO_SUCH, x.fewest(4));
         c.same("38: no such slide", RevealDeck.NO_SUCH, x.fewest(-1));
@@ -71,7 +74,7 @@ final class ForecastTest {
     }
 
     private static void promise38Ways(Check c) {
-        RevealDeck x = Check.deck(6);
+        Run x = Run.deck(6);
         x.addItem(0, 9, -1, 1);
         x.addItem(1, 9, -1, 1);
         x.addItem(4, 5, -1, 1);
@@ -98,7 +101,7 @@ final class ForecastTest {
         c.same("38: from the final step", 1, x.fewest(1));
         x.press(7);
         c.same("38: from the first step", 2, x.fewest(1));
-        RevealDeck y = Check.deck(10);
+        Run y = Run.deck(10);
         y.start();
         c.same("38: the tenth slide", 9, y.fewest(9));
         y.link(0, 0, 9);
@@ -110,8 +113,43 @@ final class ForecastTest {
         c.same("38: the tenth slide itself", 0, y.fewest(9));
     }
 
+    /** The way with the fewest moves may lead over all slides, against their order. */
+    private static void promise38LongestWay(Check c) {
+        Run x = Run.deck(10);
+        x.addItem(0, 9, -1, 1);
+        x.link(0, 4, 9);
+        for (int slide = 2; slide <= 9; slide++) {
+            x.addItem(slide, 9, -1, 1);
+            x.link(slide, slide, slide - 1);
+        }
+        x.start();
+        for (int slide = 1; slide <= 9; slide++) {
+            c.same("38: by " + (10 - slide) + " keys", 10 - slide, x.fewest(slide));
+        }
+        x.forward();
+        c.same("38: by 9 moves forward", 9, x.fewest(1));
+        x.forward();
+        c.same("38: by 8 moves forward", 8, x.fewest(1));
+        c.same("38: by 8 keys", 8, x.fewest(2));
+    }
+
+    private static void promise39None(Check c) {
+        for (int slides = 0; slides <= 2; slides++) {
+            Run x = Run.deck(slides);
+            c.same("39: no presentation of " + slides + " slides", RevealDeck.NONE, x.secondsLeft());
+            for (int slide = 0; slide < slides; slide++) {
+                x.setPause(slide, 7);
+            }
+            c.same("39: no presentation, though there are pauses", RevealDeck.NONE, x.secondsLeft());
+            x.start();
+            c.same("39: a presentation", slides == 0 ? RevealDeck.NONE : 7 * slides - 7, x.secondsLeft());
+            x.stop();
+            c.same("39: no presentation any more", RevealDeck.NONE, x.secondsLeft());
+        }
+    }
+
     private static void promise39(Check c) {
-        RevealDeck x = Check.deck(3);
+        Run x = Run.deck(3);
         c.same("39: no presentation", RevealDeck.NONE, x.secondsLeft());
         x.start();
         c.same("39: no pause", RevealDeck.NONE, x.secondsLeft());
@@ -149,7 +187,7 @@ final class ForecastTest {
     }
 
     private static void promise39Pauses(Check c) {
-        RevealDeck x = Check.deck(2);
+        Run x = Run.deck(2);
         x.addItem(0, 1, -1, 1);
         x.start();
         x.tick(30);
@@ -166,7 +204,7 @@ final class ForecastTest {
     }
 
     private static void promise40(Check c) {
-        RevealDeck x = Check.deck(4);
+        Run x = Run.deck(4);
         c.same("40: no presentation", RevealDeck.NONE, x.backTo());
         x.start();
         c.same("40: the trail is empty", RevealDeck.NONE, x.backTo());

@@ -18,7 +18,7 @@ final class LookTest {
     }
 
     private static void promise25And26(Check c) {
-        RevealDeck x = new RevealDeck();
+        Run x = new Run();
         c.same("25: slides()", 0, x.slides());
         c.same("26: slideAt(0)", RevealDeck.NONE, x.slideAt(0));
         c.same("26: slideAt(-1)", RevealDeck.BAD_VALUE, x.slideAt(-1));
@@ -38,7 +38,7 @@ final class LookTest {
     }
 
     private static void promise27(Check c) {
-        RevealDeck x = Check.deck(3);
+        Run x = Run.deck(3);
         x.moveSlide(2, 0);
         x.hide(2, true);
         x.setPause(2, 17);
@@ -60,7 +60,7 @@ final class LookTest {
     }
 
     private static void promise27FinalStep(Check c) {
-        RevealDeck x = Check.deck(1);
+        Run x = Run.deck(1);
         int[][] items = {{0, -1, 0}, {0, 0, 1}, {1, -1, 1}, {1, 2, 3}, {2, 2, 3}, {0, 9, 3}};
         for (int[] item : items) {
             x.addItem(0, item[0], item[1], 0);
@@ -69,7 +69,7 @@ final class LookTest {
         x.removeItem(0, 5);
         x.addItem(0, 0, 8, 0);
         c.same("27: final step with the last step 8", 9, x.slide(0, 4));
-        RevealDeck y = Check.deck(2);
+        Run y = Run.deck(2);
         y.addItem(0, 0, 9, 0);
         c.same("27: final step with the last step 9", 0, y.slide(0, 4));
         y.addItem(1, 9, 9, 0);
@@ -77,7 +77,7 @@ final class LookTest {
     }
 
     private static void promise28(Check c) {
-        RevealDeck x = Check.deck(2);
+        Run x = Run.deck(2);
         x.addItem(0, 3, 9, 0);
         x.addItem(0, 0, -1, 99);
         x.addItem(0, 0, 0, 1);
@@ -97,7 +97,7 @@ final class LookTest {
     }
 
     private static void promise29(Check c) {
-        RevealDeck x = Check.deck(3);
+        Run x = Run.deck(3);
         x.link(0, 0, 2);
         x.link(0, 9, 0);
         c.same("29: target(0, 0)", 2, x.target(0, 0));
@@ -111,7 +111,7 @@ final class LookTest {
     }
 
     private static void promise30(Check c) {
-        RevealDeck x = Check.deck(2);
+        Run x = Run.deck(2);
         x.addItem(0, 0, -1, 1);
         x.addItem(0, 2, 4, 1);
         x.addItem(0, 4, 4, 1);
@@ -138,7 +138,7 @@ final class LookTest {
     }
 
     private static void promise31(Check c) {
-        RevealDeck x = Check.deck(2);
+        Run x = Run.deck(2);
         for (int what = 0; what <= 6; what++) {
             c.same("31: no presentation: now(" + what + ")", RevealDeck.NONE, x.now(what));
         }
@@ -169,14 +169,14 @@ final class LookTest {
         c.same("31: now(7)", RevealDeck.BAD_VALUE, x.now(7));
     }
 
-    private static void now(Check c, RevealDeck x, int... due) {
+    private static void now(Check c, Run x, int... due) {
         for (int what = 0; what <= 6; what++) {
             c.same("31: now(" + what + ")", due[what], x.now(what));
         }
     }
 
     private static void promise32(Check c) {
-        RevealDeck x = Check.deck(3);
+        Run x = Run.deck(3);
         c.same("32: trail(0, 0)", RevealDeck.NONE, x.trail(0, 0));
         c.same("32: trail(-1, 0)", RevealDeck.BAD_VALUE, x.trail(-1, 0));
         c.same("32: trail(0, 3)", RevealDeck.BAD_VALUE, x.trail(0, 3));
@@ -207,7 +207,7 @@ final class LookTest {
     }
 
     private static void promise33(Check c) {
-        RevealDeck x = Check.deck(2);
+        Run x = Run.deck(2);
         x.addItem(0, 0, 0, 1);
         x.addItem(0, 0, 1, 10);
         x.addItem(0, 1, -1, 99);
@@ -230,11 +230,14 @@ final class LookTest {
     }
 
     private static void promise34(Check c) {
-        RevealDeck x = Check.deck(1);
+        Run x = Run.deck(1);
         x.note(3, 30);
         x.note(100, 0);
         x.note(1, 10);
         c.same("34: no presentation", RevealDeck.NONE, x.noteNow());
+        x.note(0, 5);
+        c.same("34: no presentation, though there is a note at 0", RevealDeck.NONE, x.noteNow());
+        x.note(0, -1);
         x.start();
         int[] due = {RevealDeck.NONE, 10, 10, 30, 30};
         for (int second = 0; second < due.length; second++) {
@@ -254,7 +257,7 @@ final class LookTest {
     }
 
     private static void promise35(Check c) {
-        RevealDeck x = new RevealDeck();
+        Run x = new Run();
         c.same("35: end()", 0, x.end());
         x.setEnd(77);
         c.same("35: end()", 77, x.end());
@@ -263,7 +266,7 @@ final class LookTest {
     }
 
     private static void promise36(Check c) {
-        RevealDeck x = new RevealDeck();
+        Run x = new Run();
         c.sameFloat("36: no slides", 0.0f, x.meanSteps());
         x.addSlide();
         c.sameFloat("36: one slide", 1.0f, x.meanSteps());

@@ -10,7 +10,7 @@ import java.util.function.ToIntFunction;
  * The document once more, written another way: states are copied whole, and what would be is found by
  * making the moves on a copy, so that it agrees with RevealDeck by the document alone.
  */
-final class Model {
+final class Model implements Looks {
     record Item(int first, int last, int label) {
         boolean seen(int step) {
             return step >= first && (last == -1 || step <= last);
@@ -372,8 +372,12 @@ final class Model {
     private static final String MOVE = "(f|b|k[0-9]|t[1-9][0-9]?)";
     private static final String TEXT = MOVE + "(;" + MOVE + ")*";
 
-    /** A beginning can be gone on with to a text if one of these few endings makes it one. */
     int fault() {
+        return faultOf(text);
+    }
+
+    /** A beginning can be gone on with to a text if one of these few endings makes it one. */
+    static int faultOf(String text) {
         if (text.matches(TEXT)) {
             return RevealDeck.NONE;
         }
@@ -428,11 +432,19 @@ final class Model {
         return history.size();
     }
 
-    int slideAt(int place) {
+    public int slides() {
+        return world.order.size();
+    }
+
+    public int end() {
+        return world.end;
+    }
+
+    public int slideAt(int place) {
         return place < 0 ? RevealDeck.BAD_VALUE : place < world.order.size() ? world.order.get(place) : RevealDeck.NONE;
     }
 
-    int slide(int slide, int what) {
+    public int slide(int slide, int what) {
         Page page = world.pages.get(slide);
         if (page == null) {
             return RevealDeck.NO_SUCH;
@@ -441,7 +453,7 @@ final class Model {
         return out(what, 0, 5) ? RevealDeck.BAD_VALUE : answers[what];
     }
 
-    int item(int slide, int place, int what) {
+    public int item(int slide, int place, int what) {
         Page page = world.pages.get(slide);
         if (page == null || out(place, 0, page.items.size() - 1)) {
             return RevealDeck.NO_SUCH;
@@ -451,7 +463,7 @@ final class Model {
         return out(what, 0, 2) ? RevealDeck.BAD_VALUE : answers[what];
     }
 
-    int target(int slide, int key) {
+    public int target(int slide, int key) {
         Page page = world.pages.get(slide);
         if (page == null) {
             return RevealDeck.NO_SUCH;
@@ -459,7 +471,7 @@ final class Model {
         return out(key, 0, 9) ? RevealDeck.BAD_VALUE : page.links.getOrDefault(key, RevealDeck.NONE);
     }
 
-    int picture(int slide, int step) {
+    public int picture(int slide, int step) {
         Page page = world.pages.get(slide);
         if (page == null) {
             return RevealDeck.NO_SUCH;
@@ -474,7 +486,7 @@ final class Model {
         return mask;
     }
 
-    int now(int what) {
+    public int now(int what) {
         if (out(what, 0, 6)) {
             return RevealDeck.BAD_VALUE;
         }
@@ -486,7 +498,7 @@ final class Model {
         return answers[what];
     }
 
-    int trail(int ago, int what) {
+    public int trail(int ago, int what) {
         if (ago < 0 || out(what, 0, 2)) {
             return RevealDeck.BAD_VALUE;
         }
@@ -497,7 +509,7 @@ final class Model {
         return what == 0 ? p.slide() : what == 1 ? p.step() : p.marked() ? 1 : 0;
     }
 
-    int labels() {
+    public int labels() {
         if (world.at == null) {
             return RevealDeck.NONE;
         }
@@ -505,12 +517,12 @@ final class Model {
         return items.stream().filter(item -> item.seen(world.at.step())).mapToInt(Item::label).sum();
     }
 
-    int noteNow() {
+    public int noteNow() {
         Map.Entry<Integer, Integer> note = world.at == null ? null : world.notes.floorEntry(world.clock);
         return note == null ? RevealDeck.NONE : note.getValue();
     }
 
-    float meanSteps() {
+    public float meanSteps() {
         int sum = world.pages.values().stream().mapToInt(page -> page.finalStep() + 1).sum();
         return world.pages.isEmpty() ? 0.0f : (float) sum / (float) world.pages.size();
     }
@@ -521,7 +533,7 @@ final class Model {
         return w;
     }
 
-    int movesLeft() {
+    public int movesLeft() {
         if (world.at == null) {
             return RevealDeck.NONE;
         }
@@ -534,7 +546,7 @@ final class Model {
     }
 
     /** A search over all positions, by all their moves. */
-    int fewest(int slide) {
+    public int fewest(int slide) {
         if (!world.pages.containsKey(slide)) {
             return RevealDeck.NO_SUCH;
         }
@@ -562,7 +574,7 @@ final class Model {
         return RevealDeck.NONE;
     }
 
-    int secondsLeft() {
+    public int secondsLeft() {
         if (world.at == null) {
             return RevealDeck.NONE;
         }
@@ -578,7 +590,7 @@ final class Model {
         return seconds;
     }
 
-    int backTo() {
+    public int backTo() {
         World w = world.copy();
         return w.back() < 0 ? RevealDeck.NONE : w.at.slide();
     }

@@ -1,22 +1,28 @@
 import java.util.Random;
 
-/** Promises 1 to 40: long runs of calls by numbers from a fixed seed, each answer against the model's. */
+/** Promises 1 to 40: runs of calls by numbers from fixed seeds, each answer against the model's. */
 final class ModelTest {
-    private static final int RUNS = 300;
-    private static final int CALLS = 512;
+    private static final int RUNS = 4000;
+    /** So many calls are left for what is looked at in the end. */
+    private static final int SPARE = 135;
+    /** So many calls a text needs at the most. */
+    private static final int TYPED = 110;
 
     private final Check c;
     private final Random random;
-    private final RevealDeck x = new RevealDeck();
+    private final Run x = new Run();
     private final Model m = new Model();
     /** How often the deck is changed, in hundredths; the other calls are mostly moves. */
     private final int changes;
+    /** How many calls look at something behind each call that may change something. */
+    private final int looks;
     private final String run;
 
     private ModelTest(Check c, int seed) {
         this.c = c;
         this.random = new Random(seed);
-        this.changes = 10 + random.nextInt(50);
+        this.changes = 5 + random.nextInt(50);
+        this.looks = random.nextInt(4);
         this.run = "run " + seed;
     }
 
@@ -29,19 +35,23 @@ final class ModelTest {
     }
 
     private void play() {
-        for (int call = 1; call <= CALLS; call++) {
+        int spare = SPARE + random.nextInt(2) * random.nextInt(300);
+        for (int step = 0; x.callsLeft() > spare; step++) {
             int kind = random.nextInt(100);
-            if (call < 40 || kind < changes) {
+            if (step < 40 || kind < changes) {
                 change();
-            } else if (kind < 90) {
+            } else if (kind < 90 || x.callsLeft() < spare + TYPED) {
                 move();
             } else {
                 textCall();
             }
-            look();
-            if (call % 64 == 0) {
-                lookAtAll();
+            for (int i = 0; i < looks; i++) {
+                look();
             }
+        }
+        c.sameText(run, Looks.stateOf(() -> m), Looks.stateOf(x::again));
+        while (x.callsLeft() > 0) {
+            look();
         }
     }
 
@@ -65,8 +75,8 @@ final class ModelTest {
     }
 
     private int someSlide() {
-        int count = x.slides();
-        return count > 0 && random.nextInt(8) > 0 ? x.slideAt(random.nextInt(count)) : about(0, 9);
+        int count = m.slides();
+        return count > 0 && random.nextInt(8) > 0 ? m.slideAt(random.nextInt(count)) : about(0, 9);
     }
 
     private void change() {
@@ -144,7 +154,7 @@ final class ModelTest {
                 a = random.nextInt(3);
                 if (a == 0) {
                     same("undo()", m.undo(), x.undo());
-                } else if (x.now(0) == RevealDeck.NONE || random.nextInt(20) == 0) {
+                } else if (m.now(0) == RevealDeck.NONE || random.nextInt(20) == 0) {
                     same("start()", m.start(), x.start());
                 }
             }
@@ -154,7 +164,7 @@ final class ModelTest {
     /** Mostly a key for which the slide of the position has a link. */
     private int linkedKey() {
         int key = about(0, 9);
-        for (int i = 0; i < 10 && random.nextInt(10) > 0 && x.target(x.now(0), key) < 0; i++) {
+        for (int i = 0; i < 10 && random.nextInt(10) > 0 && m.target(m.now(0), key) < 0; i++) {
             key = (key & 7) == key ? key + 1 : 0;
         }
         return key;
@@ -189,52 +199,35 @@ final class ModelTest {
     }
 
     private void look() {
-        for (int what = -1; what <= 7; what++) {
-            same("now(" + what + ")", m.now(what), x.now(what));
-        }
-        for (int what = -1; what <= 4; what++) {
-            same("why(" + what + ")", m.why(what), x.why(what));
-        }
-        int ago = about(0, 40);
-        int what = about(0, 2);
-        same("trail(" + ago + ", " + what + ")", m.trail(ago, what), x.trail(ago, what));
         int slide = someSlide();
-        int number = about(0, 5);
-        same("slide(" + slide + ", " + number + ")", m.slide(slide, number), x.slide(slide, number));
-        same("item(" + slide + ", " + number + ", " + what + ")", m.item(slide, number, what), x.item(slide, number, what));
-        int step = about(0, 9);
-        same("picture(" + slide + ", " + step + ")", m.picture(slide, step), x.picture(slide, step));
-        same("target(" + slide + ", " + step + ")", m.target(slide, step), x.target(slide, step));
-        same("slideAt(" + step + ")", m.slideAt(step), x.slideAt(step));
-        same("fewest(" + slide + ")", m.fewest(slide), x.fewest(slide));
-        same("slides()", m.world.order.size(), x.slides());
-        same("fault() of " + m.text, m.fault(), x.fault());
-        same("labels()", m.labels(), x.labels());
-        same("noteNow()", m.noteNow(), x.noteNow());
-        same("end()", m.world.end, x.end());
-        same("movesLeft()", m.movesLeft(), x.movesLeft());
-        same("secondsLeft()", m.secondsLeft(), x.secondsLeft());
-        same("backTo()", m.backTo(), x.backTo());
-        c.sameFloat(run + ": meanSteps()", m.meanSteps(), x.meanSteps());
+        int what = about(0, 6);
+        int place = about(0, 9);
+        switch (random.nextInt(18)) {
+            case 0 -> same("slides()", m.slides(), x.slides());
+            case 1 -> same("slideAt(" + place + ")", m.slideAt(place), x.slideAt(place));
+            case 2 -> same("slide(" + slide + ", " + what + ")", m.slide(slide, what), x.slide(slide, what));
+            case 3 -> same("item(" + slide + ", " + place / 2 + ", " + what / 2 + ")", m.item(slide, place / 2, what / 2), x.item(slide, place / 2, what / 2));
+            case 4 -> same("target(" + slide + ", " + place + ")", m.target(slide, place), x.target(slide, place));
+            case 5 -> same("picture(" + slide + ", " + place + ")", m.picture(slide, place), x.picture(slide, place));
+            case 6, 7, 8 -> same("now(" + what + ")", m.now(what), x.now(what));
+            case 9 -> same("trail(" + place + ", " + what / 2 + ")", m.trail(place, what / 2), x.trail(place, what / 2));
+            case 10 -> same("labels()", m.labels(), x.labels());
+            case 11 -> same("noteNow()", m.noteNow(), x.noteNow());
+            case 12 -> same("end()", m.end(), x.end());
+            case 13 -> c.sameFloat(run + ": meanSteps()", m.meanSteps(), x.meanSteps());
+            case 14 -> same("movesLeft()", m.movesLeft(), x.movesLeft());
+            case 15 -> same("fewest(" + slide + ")", m.fewest(slide), x.fewest(slide));
+            case 16 -> same("secondsLeft()", m.secondsLeft(), x.secondsLeft());
+            default -> lookAtText();
+        }
     }
 
-    private void lookAtAll() {
-        for (int slide = -1; slide <= 10; slide++) {
-            same("slideAt(" + slide + ")", m.slideAt(slide), x.slideAt(slide));
-            same("fewest(" + slide + ")", m.fewest(slide), x.fewest(slide));
-            for (int i = -1; i <= 10; i++) {
-                same("slide(" + slide + ", " + i + ")", m.slide(slide, i), x.slide(slide, i));
-                same("picture(" + slide + ", " + i + ")", m.picture(slide, i), x.picture(slide, i));
-                same("target(" + slide + ", " + i + ")", m.target(slide, i), x.target(slide, i));
-                for (int what = -1; what <= 3; what++) {
-                    same("item(" + slide + ", " + i + ", " + what + ")", m.item(slide, i, what), x.item(slide, i, what));
-                }
-            }
-        }
-        for (int ago = -1; ago <= 41; ago++) {
-            for (int what = -1; what <= 3; what++) {
-                same("trail(" + ago + ", " + what + ")", m.trail(ago, what), x.trail(ago, what));
-            }
+    private void lookAtText() {
+        int what = about(0, 3);
+        same("why(" + what + ")", m.why(what), x.why(what));
+        if (x.callsLeft() >= 2) {
+            same("fault() of " + m.text, m.fault(), x.fault());
+            same("backTo()", m.backTo(), x.backTo());
         }
     }
 }

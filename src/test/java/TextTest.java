@@ -1,5 +1,3 @@
-import java.util.function.ToIntFunction;
-
 /** Promises 19 to 24: the text, run with its report, and the history. */
 final class TextTest {
     public static void main(String[] args) {
@@ -10,28 +8,27 @@ final class TextTest {
         promise22(c);
         promise23(c);
         promise24(c);
-        promise24Actions(c);
         promise24NoActions(c);
         c.end();
     }
 
     private static void promise19(Check c) {
-        RevealDeck x = new RevealDeck();
-        c.refused(x, "19: append(31)", RevealDeck.BAD_VALUE, () -> x.append(31));
-        c.refused(x, "19: append(127)", RevealDeck.BAD_VALUE, () -> x.append(127));
-        c.refused(x, "19: append(65536 + 102)", RevealDeck.BAD_VALUE, () -> x.append(65536 + 102));
+        Run x = new Run();
+        c.refused(x, "19: append(31)", RevealDeck.BAD_VALUE, d -> d.append(31));
+        c.refused(x, "19: append(127)", RevealDeck.BAD_VALUE, d -> d.append(127));
+        c.refused(x, "19: append(65536 + 102)", RevealDeck.BAD_VALUE, d -> d.append(65536 + 102));
         c.same("19: append(32)", 1, x.append(32));
         c.same("19: append(126)", 2, x.append(126));
         for (int i = 3; i <= 60; i++) {
             c.same("19: append(102)", i, x.append(102));
         }
-        c.refused(x, "19: full", RevealDeck.TOO_MANY, () -> x.append(102));
-        c.refused(x, "19: full, and a bad value", RevealDeck.BAD_VALUE, () -> x.append(127));
+        c.refused(x, "19: full", RevealDeck.TOO_MANY, d -> d.append(102));
+        c.refused(x, "19: full, and a bad value", RevealDeck.BAD_VALUE, d -> d.append(127));
         c.same("19: the length", 60, x.clearText());
     }
 
     private static void promise20(Check c) {
-        RevealDeck x = new RevealDeck();
+        Run x = new Run();
         Check.type(x, "f;b");
         c.same("20: clearText()", 3, x.clearText());
         c.same("20: it is empty", 0, x.clearText());
@@ -63,17 +60,17 @@ final class TextTest {
     }
 
     private static void fault(Check c, String text, int due) {
-        RevealDeck x = Check.deck(1);
+        Run x = Run.deck(1);
         Check.type(x, text);
         c.same("21: fault() of '" + text + "'", due, x.fault());
         c.same("21: run() of '" + text + "'", due == RevealDeck.NONE ? 0 : RevealDeck.BAD_TEXT, x.run());
     }
 
     private static void promise22(Check c) {
-        RevealDeck x = Check.deck(3);
-        c.refused(x, "22: the empty text", RevealDeck.BAD_TEXT, x::run);
+        Run x = Run.deck(3);
+        c.refused(x, "22: the empty text", RevealDeck.BAD_TEXT, RevealDeck::run);
         Check.type(x, "f;f;");
-        c.refused(x, "22: not complete", RevealDeck.BAD_TEXT, x::run);
+        c.refused(x, "22: not complete", RevealDeck.BAD_TEXT, RevealDeck::run);
         x.append('b');
         c.same("22: no presentation", 0, x.run());
         x.start();
@@ -101,7 +98,7 @@ final class TextTest {
     }
 
     private static void promise23(Check c) {
-        RevealDeck x = Check.deck(2);
+        Run x = Run.deck(2);
         for (int what = 0; what <= 3; what++) {
             c.same("23: no run yet: why(" + what + ")", RevealDeck.NONE, x.why(what));
         }
@@ -137,7 +134,7 @@ final class TextTest {
         why(c, "stopped", x, 0, 0, RevealDeck.NONE, RevealDeck.NONE);
     }
 
-    private static void why(Check c, String when, RevealDeck x, int move, int character, int slide, int step) {
+    private static void why(Check c, String when, Run x, int move, int character, int slide, int step) {
         c.same("23: " + when + ": why(0)", move, x.why(0));
         c.same("23: " + when + ": why(1)", character, x.why(1));
         c.same("23: " + when + ": why(2)", slide, x.why(2));
@@ -145,7 +142,7 @@ final class TextTest {
     }
 
     private static void promise24(Check c) {
-        RevealDeck x = Check.deck(2);
+        Run x = Run.deck(2);
         x.setEnd(5);
         x.setEnd(6);
         x.setEnd(7);
@@ -162,7 +159,7 @@ final class TextTest {
         x.setEnd(6);
         c.same("24: recorded anew", 0, x.undo());
         c.same("24: end()", 5, x.end());
-        RevealDeck y = Check.deck(2);
+        Run y = Run.deck(2);
         y.addItem(0, 1, -1, 1);
         y.link(1, 5, 0);
         y.start();
@@ -170,7 +167,7 @@ final class TextTest {
         y.forward();
         y.press(5);
         y.forward();
-        String before = Check.stateOf(y);
+        String before = Looks.stateOf(y::again);
         y.link(0, 5, 1);
         y.start();
         y.press(5);
@@ -179,94 +176,19 @@ final class TextTest {
         y.undo();
         y.undo();
         y.undo();
-        c.same("24: the trail as it was (1 for yes)", 1, before.equals(Check.stateOf(y)) ? 1 : 0);
+        c.sameText("24: the trail as it was", before, Looks.stateOf(y::again));
         Check.type(x, "f");
         x.addSlide();
         x.undo();
         c.same("24: the text stays", 1, x.clearText());
     }
 
-    /** Each action records the state before it, once, and undo brings all of it back. */
-    private static void promise24Actions(Check c) {
-        undone(c, "addSlide()", x -> x.addSlide());
-        undone(c, "removeSlide(2)", x -> x.removeSlide(2));
-        undone(c, "moveSlide(0, 2)", x -> x.moveSlide(0, 2));
-        undone(c, "moveSlide(0, 0)", x -> x.moveSlide(0, 0));
-        undone(c, "hide(0, true)", x -> x.hide(0, true));
-        undone(c, "hide(0, false)", x -> x.hide(0, false));
-        undone(c, "setPause(0, 9)", x -> x.setPause(0, 9));
-        undone(c, "setPause(0, 3)", x -> x.setPause(0, 3));
-        undone(c, "addItem(0, 1, 2, 3)", x -> x.addItem(0, 1, 2, 3));
-        undone(c, "removeItem(1, 0)", x -> x.removeItem(1, 0));
-        undone(c, "removeItem(0, 0)", x -> x.removeItem(0, 0));
-        undone(c, "link(0, 4, 0)", x -> x.link(0, 4, 0));
-        undone(c, "link(0, 1, 2)", x -> x.link(0, 1, 2));
-        undone(c, "unlink(0, 1)", x -> x.unlink(0, 1));
-        undone(c, "note(0, 5)", x -> x.note(0, 5));
-        undone(c, "note(4, 44)", x -> x.note(4, 44));
-        undone(c, "note(4, -1)", x -> x.note(4, -1));
-        undone(c, "setEnd(9)", x -> x.setEnd(9));
-        undone(c, "setEnd(500)", x -> x.setEnd(500));
-        undone(c, "start()", x -> x.start());
-        undone(c, "stop()", x -> x.stop());
-        undone(c, "forward()", x -> x.forward());
-        undone(c, "back()", x -> x.back());
-        undone(c, "press(8)", x -> x.press(8));
-        undone(c, "tick(7)", x -> x.tick(7));
-        undone(c, "run()", x -> x.run());
-        undone(c, "run() of one that is not possible", x -> {
-            Check.type(x, "k0");
-            return x.run();
-        });
-    }
-
-    private static void undone(Check c, String call, ToIntFunction<RevealDeck> made) {
-        RevealDeck x = busy();
-        String before = Check.stateOf(x);
-        int answer = made.applyAsInt(x);
-        c.same("24: " + call + " is no error (1 for yes)", 1, answer >= 0 ? 1 : 0);
-        c.same("24: undo() of " + call, 0, x.undo());
-        c.same("24: all is as before " + call + " (1 for yes)", 1, before.equals(Check.stateOf(x)) ? 1 : 0);
-        c.same("24: the note as before " + call, 2, x.note(4, 4));
-        c.same("24: the note as before " + call, 1, x.note(4, -1));
-        c.same("24: the note as before " + call, RevealDeck.NO_SUCH, x.note(5, -1));
-    }
-
-    /** A deck in the midst of a presentation, with an empty history. */
-    private static RevealDeck busy() {
-        RevealDeck x = Check.deck(3);
-        x.setPause(0, 3);
-        x.addItem(0, 2, -1, 10);
-        x.addItem(0, 1, 1, 30);
-        x.addItem(1, 0, 1, 20);
-        x.link(0, 1, 2);
-        x.link(1, 8, 2);
-        x.link(2, 1, 1);
-        x.link(1, 9, 0);
-        x.note(4, 4);
-        x.note(99, 9);
-        x.setEnd(500);
-        x.start();
-        x.tick(4);
-        x.press(1);
-        x.press(1);
-        x.forward();
-        Check.type(x, "t6;b;f;k8");
-        // nothing but undo shortens the history, so the object is brought to this state by undo alone
-        x.hide(2, true);
-        x.hide(2, false);
-        x.hide(2, true);
-        x.hide(2, true);
+    /** An error and what is no action record nothing. */
+    private static void promise24NoActions(Check c) {
+        Run x = Run.deck(10);
         for (int i = 0; i < 4; i++) {
             x.undo();
         }
-        return x;
-    }
-
-    /** An error and what is no action record nothing. */
-    private static void promise24NoActions(Check c) {
-        RevealDeck x = Check.deck(10);
-        Check.historySize(x);
         x.removeSlide(99);
         x.moveSlide(0, 99);
         x.hide(-5, true);
@@ -287,9 +209,8 @@ final class TextTest {
         x.clearText();
         x.fault();
         x.why(0);
-        Check.stateOf(x);
         c.same("24: no error and no other call is recorded", RevealDeck.NONE, x.undo());
-        RevealDeck y = new RevealDeck();
+        Run y = new Run();
         y.start();
         c.same("24: start() that is not possible", RevealDeck.NONE, y.undo());
         y.addSlide();
@@ -298,9 +219,12 @@ final class TextTest {
         y.forward();
         y.back();
         c.same("24: only addSlide() and start() were recorded", 1, y.undo());
-        RevealDeck z = Check.deck(10);
+        Run z = Run.deck(10);
         z.addSlide();
         z.start();
-        c.same("24: four are kept of eleven", 4, Check.historySize(z));
+        for (int left = 3; left >= 0; left--) {
+            c.same("24: four are kept of eleven", left, z.undo());
+        }
+        c.same("24: four are kept of eleven", RevealDeck.NONE, z.undo());
     }
 }
