@@ -65,6 +65,10 @@ final class DeckTest {
         x.start();
         x.press(7);
         c.refused(x, "3: removeSlide of the position", RevealDeck.NOT_POSSIBLE, d -> d.removeSlide(1));
+        x.tick(1);
+        x.setEnd(1);
+        c.refused(x, "3: also if it is over", RevealDeck.NOT_POSSIBLE, d -> d.removeSlide(1));
+        x.setEnd(0);
         x.press(1);
         c.same("3: removeSlide(1)", 3, x.removeSlide(1));
         c.same("3: slideAt(0)", 0, x.slideAt(0));

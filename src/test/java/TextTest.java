@@ -120,6 +120,11 @@ final class TextTest {
         why(c, "a bad text leaves it", x, 2, 6, 1, 0);
         x.undo();
         why(c, "undo leaves it", x, 2, 6, 1, 0);
+        x.stop();
+        x.removeSlide(1);
+        why(c, "stop and removeSlide leave it", x, 2, 6, 1, 0);
+        x.undo();
+        x.undo();
         x.start();
         Check.type(x, "f;f;t99;f");
         x.run();
